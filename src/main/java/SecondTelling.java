@@ -1082,18 +1082,14 @@ public final class SecondTelling {
             int lines = 0;
             while (lines < MOST_BYTES && fault == 0 && tokens.kind != TEXT_END) {
                 fault = readLine();
-                tokensOn();
-                lines++;
+                if (fault == 0) {
+                    // behind a FAULT no TOKEN is taken: its place is the one of the TOKEN at hand
+                    tokens.next();
+                    lines++;
+                }
             }
             place = fault == 0 ? NONE : tokens.place;
             return fault == 0 ? lines : NONE;
-        }
-
-        /** A FAULT's place is the one of the TOKEN at hand: behind a FAULT none is taken. */
-        private void tokensOn() {
-            if (fault == 0) {
-                tokens.next();
-            }
         }
 
         private int readLine() {

@@ -96,10 +96,21 @@ public final class OracleTest {
         }
 
         int pick(int size) {
+            if (random.nextInt(200) == 0) {
+                return wild();
+            }
             return random.nextInt(25) == 0 || size == 0 ? random.nextInt(11) - 2 : random.nextInt(size);
         }
 
+        int wild() {
+            int[] all = {Integer.MIN_VALUE, Integer.MAX_VALUE, Integer.MIN_VALUE + 1, 1 << 30, 31, 32, 33, 64, -31, -33, 255, 1 << 16};
+            return all[random.nextInt(all.length)];
+        }
+
         int days(int most) {
+            if (random.nextInt(200) == 0) {
+                return wild();
+            }
             return random.nextInt(20) == 0 ? random.nextInt(4) - 2 + random.nextInt(2) * most : random.nextInt(12);
         }
 
@@ -107,7 +118,7 @@ public final class OracleTest {
             int a = man();
             int b = man();
             int t = thing();
-            int w = random.nextInt(20) == 0 ? random.nextInt(12) - 3 : random.nextInt(5);
+            int w = random.nextInt(20) == 0 ? random.nextInt(12) - 3 : random.nextInt(200) == 0 ? wild() : random.nextInt(5);
             int n = days(201);
             switch (random.nextInt(46)) {
                 case 0: check("fault " + w, real.fault(w), model.fault(w)); break;

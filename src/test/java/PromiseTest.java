@@ -53,6 +53,8 @@ public final class PromiseTest {
         p35();
         p36();
         p37();
+        newsOnDayNought();
+        staleRows();
         System.out.println(wrong == 0 ? "all answers are as due" : wrong + " answers are not as due");
         if (wrong != 0) {
             System.exit(1);
@@ -432,6 +434,8 @@ public final class PromiseTest {
         due("no other", x.law(1, 0, 1, 3), ERROR);
         due("no one", x.law(0, 0, 3, 0), ERROR);
         due("no thing", x.law(0, 1, 0, 0), ERROR);
+        due("no thing 32", x.law(0, 32, 0, 0), ERROR);
+        due("no man 32", x.law(0, 0, 32, 0), ERROR);
         due("no what", x.law(3, 0, 0, 1), ERROR);
         due("no what below", x.law(-1, 0, 0, 1), ERROR);
         x.forget(1, 0);
@@ -476,6 +480,12 @@ public final class PromiseTest {
         value("2<=2", 1);
         value("2>=3", 0);
         value("3>2", 1);
+        value("2>2", 0);
+        value("1>2", 0);
+        value("3<=2", 0);
+        value("2>=2", 1);
+        value("1<>2", 1);
+        value("1=2", 0);
         value("2<2", 0);
         value("hats*1000+bent*100+old*10+day", 7322);
         value("apart*100+many*10+told", 10);
@@ -617,6 +627,51 @@ public final class PromiseTest {
         due("a is unlike nobody", x.tell(0, 0), 0);
         due("c fits b alone", x.tell(2, 0), 1);
         due("by b", x.count(9), 13);
+    }
+
+    /** A NEWS of DAY 0 is one, for every call that asks. */
+    private static void newsOnDayNought() {
+        promise = "news on day 0";
+        SecondTelling x = of("man a 1;man b 1;man c 1;thing t 0 9;sees a t;sees b t;sees c t;near 0;tell a t 0;tell b t 0;law print 7;");
+        due("hush", x.hush(0), 1);
+        due("when", x.when(0), 1);
+        due("ahead", x.ahead(1, 0, 0), 1);
+        due("tried", x.tried(4, 0, 1), 1);
+        x.go(1);
+        due("its day", x.thing(0, 2), 0);
+        due("news", x.count(6), 1);
+        due("when now", x.when(0), 0);
+        due("hush now", x.hush(0), -2);
+        due("no match", x.match(6), 0);
+        due("ahead now", x.ahead(0, 0, 0), 1);
+        due("tried now", x.tried(4, 0, 9), 0);
+        due("not news again", x.tell(2, 0), 0);
+        due("space once", x.count(9), 7);
+        due("its day stays", x.thing(0, 2), 0);
+    }
+
+    /** What an earlier TEXT left in rows that are used again isn't looked at. */
+    private static void staleRows() {
+        promise = "rows used again";
+        SecondTelling x = of(TOWN + "law fits 1+2*3<4 and not 5;law change hats;law print 1;");
+        x.go(5);
+        x.keep();
+        x.see(2, 1, 0, 99, true);
+        x.see(2, 1, 0, 99, true);
+        x.forget(0, 0);
+        due("a cut law", load(x, "law fits 1+(2*(3"), -1);
+        due("text", load(x, TOWN.replace("sees ann fire;", "")), 15);
+        due("ann doesn't see it now", x.hears(0, 0), -2);
+        due("no law", x.law(0, 0, 0, 0), ERROR);
+        due("no knots", x.count(4), 0);
+        due("cy by sight", x.hears(2, 0), 1);
+        x.see(2, 3, 0, 10, true);
+        due("a strike where a sight was", x.strike(0), 1);
+        due("all", x.bents(2), 1023);
+        due("a law behind", load(x, "man a 3;thing t 0 4;sees a t;law change hats*2+1;"), 4);
+        x.go(1);
+        due("its value", x.law(0, 0, 0, 0), 9);
+        due("four knots and one", x.count(4), 5);
     }
 
     private static void p12() {
@@ -857,6 +912,7 @@ public final class PromiseTest {
         due("all alone", of("man a 1;man b 1;man c 1;").spread(), 7);
         due("the least of several", of("man a 1;man b 1;man c 1;way a b 1;way b a 1;").spread(), 5);
         due("a later one", of("man a 1;man b 1;man c 1;way c a 1;way a b 1;").spread(), 4);
+        due("reaches in common", of("man a 1;man b 1;man c 1;way a b 1;way c b 1;").spread(), 5);
         due("two", of("man a 1;man b 1;man c 1;man d 1;way d a 1;way d b 1;").spread(), 12);
     }
 
@@ -881,6 +937,9 @@ public final class PromiseTest {
         SecondTelling x = of(all);
         x.go(1);
         due("nothing is told", x.match(6), 0);
+        x.tell(0, 0);
+        due("with the first one's telling", x.match(0), 1);
+        x.undo();
         x.tell(3, 0);
         due("one of t", x.match(6), 1);
         due("the first one", x.match(0), 0);
@@ -925,6 +984,11 @@ public final class PromiseTest {
         due("the other one tells", x.rest(0, 1, 0, 1), 10);
         due("no third", x.rest(0, 1, 0, 2), -2);
         due("far", x.rest(0, 1, 0, Integer.MAX_VALUE), -2);
+        x.forget(3, 0);
+        due("the second one hasn't it", x.rests(0, 3, 0), -2);
+        due("the first one hasn't it", x.rests(3, 0, 0), -2);
+        due("rest, the second one hasn't it", x.rest(0, 3, 0, 0), -2);
+        due("rest, the first one hasn't it", x.rest(3, 0, 0, 0), -2);
         due("k below 0", x.rest(0, 1, 0, -1), -1);
         due("k below 0, nobody has it", x.rest(0, 1, 1, -1), -1);
         due("alike", x.rests(1, 1, 0), -1);
@@ -1064,6 +1128,12 @@ public final class PromiseTest {
         due("no thing", x.ask(0, 2, 0), -1);
         x.see(2, 1, 0, 12, true);
         x.see(2, 1, 0, 12, false);
+        SecondTelling own = of("man a 1;man b 1;thing t 0 9;sees b t;way b a 1;");
+        due("the first one may be asked", own.ask(1, 0, 0), 0);
+        due("one is left", own.ask(1, 0, 1), 1);
+        own.see(2, 0, 0, 9, true);
+        due("bent 0 alone", own.bents(1), 1);
+        due("it is left", own.ask(1, 0, 1), 1);
         due("no bents left: person 0", x.ask(0, 0, 0), 0);
         due("none left", x.ask(0, 0, 1), 0);
         SecondTelling y = of("man a 1;man b 1;man c 1;thing t 0 9;sees a t;way a b 9;way b c 9;law change hats+bent/3;");
