@@ -1,16 +1,5 @@
-import java.nio.charset.StandardCharsets;
-import java.util.NoSuchElementException;
-
 /** For each promise of the document: ordinary inputs, the edges that it names, wrong inputs. */
-public final class PromiseTest {
-    private static int wrong = 0;
-    private static String promise = "";
-
-    private static final String TOWN = "man ann 2;man bo 3;man cy 0;man di 5;thing fire 0 10;thing marsh 2 40;"
-            + "sees ann fire;sees cy fire;sees di marsh;way ann bo 1;way bo cy 2;way cy di 1;"
-            + "tell bo fire 2;tell ann fire 3;tell cy fire 3;tell di fire 4;";
-    private static final long ERROR = Long.MIN_VALUE;
-
+public final class PromiseTest extends Check {
     public static void main(String[] args) {
         p1();
         p2();
@@ -55,74 +44,7 @@ public final class PromiseTest {
         p37();
         newsOnDayNought();
         staleRows();
-        System.out.println(wrong == 0 ? "all answers are as due" : wrong + " answers are not as due");
-        if (wrong != 0) {
-            System.exit(1);
-        }
-    }
-
-    private static void due(String call, long got, long want) {
-        if (got != want) {
-            wrong++;
-            System.out.println(promise + ": " + call + " answered " + got + ", due is " + want);
-        }
-    }
-
-    private static void due(String call, boolean got, boolean want) {
-        due(call, got ? 1 : 0, want ? 1 : 0);
-    }
-
-    private static int feedAll(SecondTelling x, String text) {
-        byte[] bytes = text.getBytes(StandardCharsets.ISO_8859_1);
-        for (int at = 0; at < bytes.length; at += 20) {
-            int[] five = new int[5];
-            for (int i = 0; i < 20; i++) {
-                int b = at + i < bytes.length ? bytes[at + i] & 255 : 32;
-                five[i / 4] |= b << 8 * (3 - i % 4);
-            }
-            x.feed(five[0], five[1], five[2], five[3], five[4]);
-        }
-        return bytes.length;
-    }
-
-    private static int load(SecondTelling x, String text) {
-        return x.text(feedAll(x, text));
-    }
-
-    private static SecondTelling of(String text) {
-        SecondTelling x = new SecondTelling();
-        due("text " + text, load(x, text) >= 0, true);
-        return x;
-    }
-
-    private static void faulty(String text, int kind, int place) {
-        SecondTelling x = new SecondTelling();
-        due("text " + text, load(x, text), -1);
-        due("fault(0) of " + text, x.fault(0), kind);
-        due("fault(1) of " + text, x.fault(1), place);
-    }
-
-    private static void fine(String text, int lines) {
-        SecondTelling x = new SecondTelling();
-        due("text " + text, load(x, text), lines);
-        due("fault(0) of " + text, x.fault(0), 0);
-        due("fault(1) of " + text, x.fault(1), -1);
-    }
-
-    private static int letters(String name) {
-        int code = 0;
-        for (int i = 0; i < 6; i++) {
-            code = code << 5 | (i < name.length() ? name.charAt(i) - 'a' + 1 : 0);
-        }
-        return code;
-    }
-
-    private static String many(String text, int times) {
-        StringBuilder all = new StringBuilder();
-        for (int i = 0; i < times; i++) {
-            all.append(text);
-        }
-        return all.toString();
+        end();
     }
 
     private static void p1() {
@@ -333,17 +255,6 @@ public final class PromiseTest {
         due("two bits above", x.named(0, letters("a") | 1 << 30), -1);
         due("what 2", x.named(2, letters("ab")), -1);
         due("what -1", x.named(-1, letters("ab")), -1);
-    }
-
-    private static int thrown(SecondTelling x, int thing, int what) {
-        try {
-            x.thing(thing, what);
-            return 0;
-        } catch (IndexOutOfBoundsException e) {
-            return 1;
-        } catch (NoSuchElementException e) {
-            return 2;
-        }
     }
 
     private static void p6() {
