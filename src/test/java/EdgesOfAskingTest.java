@@ -1,6 +1,10 @@
+import java.math.BigInteger;
+
 /** Promises 14 to 26, sentence by sentence: what comes, who can hear, whom to hush, matches, games, odds, at their edges. */
 public final class EdgesOfAskingTest extends Check {
     private static final int[] NO_NUMBERS = {-1, -2, 31, 32, 64, Integer.MIN_VALUE, Integer.MAX_VALUE};
+    /** The sixth THING is seen by two, told by both on DAY 3, and heard by g on DAY 1. */
+    private static final String SIXTH = SEVEN + SIX.replace(" 1 1;", " 0 1;") + "sees a f;sees f f;way f g 1;tell a f 3;tell f f 3;near 0;";
     /** a and b by sight as 40, c by nobody yet; any two that aren't joined fit. */
     private static final String THREE = "man a 0;man b 0;man c 0;thing t 0 40;sees a t;sees b t;near 0;";
     private static final String ALL_SEE = SEVEN + "thing t 0 9;sees a t;sees b t;sees c t;sees d t;sees e t;sees f t;sees g t;near 0;";
@@ -22,13 +26,13 @@ public final class EdgesOfAskingTest extends Check {
 
     @Says("AHEAD (n 0 .. 200)")
     static void promise14_for200Days() {
-        SecondTelling x = of(TOWN + "tell ann marsh 99;");
+        SecondTelling x = of(TOWN + "tell ann marsh 98;tell ann marsh 99;law print 7;");
         due("news", x.ahead(200, 0, 0), 1);
-        due("have it", x.ahead(200, 1, 1), 1);
-        due("space", x.ahead(200, 2, 0), 1);
-        due("idle", x.ahead(200, 3, 0), 1);
-        due("idle a day ahead of it", x.ahead(99, 3, 0), 0);
-        due("idle with it", x.ahead(100, 3, 0), 1);
+        due("have it", x.ahead(200, 1, 0), 4);
+        due("space", x.ahead(200, 2, 0), 7);
+        due("idle", x.ahead(200, 3, 0), 2);
+        due("idle a day ahead of it", x.ahead(99, 3, 0), 1);
+        due("idle with it", x.ahead(100, 3, 0), 2);
     }
 
     @Says("NONE: no such ones")
@@ -60,22 +64,22 @@ public final class EdgesOfAskingTest extends Check {
 
     @Says("of 0, 2, 3 i isn't looked at")
     static void promise14_iIsntLookedAt() {
-        SecondTelling x = of(TOWN + "tell ann marsh 1;");
+        SecondTelling x = of(TOWN + "tell ann marsh 1;tell ann marsh 1;law print 7;");
         for (int none : NO_NUMBERS) {
             due("news, i " + none, x.ahead(4, 0, none), 1);
-            due("space, i " + none, x.ahead(4, 2, none), 1);
-            due("idle, i " + none, x.ahead(4, 3, none), 1);
+            due("space, i " + none, x.ahead(4, 2, none), 7);
+            due("idle, i " + none, x.ahead(4, 3, none), 2);
         }
     }
 
     @Says("SPACE more, IDLE more")
     static void promise14_moreThanNow() {
-        SecondTelling x = of(TOWN + "tell ann marsh 1;tell ann marsh 6;", 5);
+        SecondTelling x = of(TOWN + "tell ann marsh 1;tell ann marsh 6;tell ann marsh 7;", 5);
         due("space by now", x.count(9), 1);
         due("idle by now", x.count(10), 1);
         due("news then, those of now too", x.ahead(9, 0, 0), 1);
         due("no more space", x.ahead(9, 2, 0), 0);
-        due("one more idle", x.ahead(9, 3, 0), 1);
+        due("two more idle", x.ahead(9, 3, 0), 2);
     }
 
     @Says("they talk, if talk is 50 at least")
@@ -98,6 +102,17 @@ public final class EdgesOfAskingTest extends Check {
         x.hush(0);
         x.match(6);
         due("state", stateOf(x), before);
+    }
+
+    @Says("AHEAD for n DAYS as it goes")
+    static void promise14_fromWhatIsNow() {
+        SecondTelling x = of("man a 1;man b 2;thing t 3 9;thing u 3 9;sees a t;sees a u;way a b 5;tell b t 20;near 0;far 99;", 5);
+        due("days are counted from when it was seen", x.ahead(3, 1, 0), 1);
+        due("the day on which they are enough", x.ahead(4, 1, 0), 2);
+        x.tell(0, 0);
+        due("joined with what is printed", x.ahead(20, 0, 0), 0);
+        x.forget(0, 1);
+        due("forgotten", x.ahead(20, 1, 1), 0);
     }
 
     // ---------------------------------------------------------------- 15
@@ -135,6 +150,13 @@ public final class EdgesOfAskingTest extends Check {
         for (int none : NO_NUMBERS) {
             due("thing " + none, x.when(none), -1);
         }
+    }
+
+    @Says("WHEN of a THING")
+    static void promise15_ofTheSixthThing() {
+        SecondTelling x = of(SIXTH);
+        due("the sixth", x.when(5), 4);
+        due("the fifth", x.when(4), -2);
     }
 
     // ---------------------------------------------------------------- 16
@@ -175,6 +197,13 @@ public final class EdgesOfAskingTest extends Check {
             due("man " + none, x.hears(none, 0), -1);
             due("thing " + none, x.hears(0, none), -1);
         }
+    }
+
+    @Says("HEARS of a PERSON and a THING")
+    static void promise16_ofTheSeventhPersonAndTheSixthThing() {
+        SecondTelling x = of(SIXTH);
+        due("the sixth", x.hears(6, 5), 2);
+        due("the fifth", x.hears(6, 4), -2);
     }
 
     // ---------------------------------------------------------------- 17
@@ -234,7 +263,12 @@ public final class EdgesOfAskingTest extends Check {
         for (int man = 0; man < 6; man++) {
             x.forget(man, 0);
         }
-        due("one alone", x.pairs(0), 0);
+        due("the last one alone", x.pairs(0), 0);
+        SecondTelling y = of(ALL_SEE, 1);
+        for (int man = 1; man < 7; man++) {
+            y.forget(man, 0);
+        }
+        due("the first one alone", y.pairs(0), 0);
     }
 
     @Says("nothing PRINTED looked at but for told")
@@ -286,6 +320,18 @@ public final class EdgesOfAskingTest extends Check {
         due("a ring", ring.reach(1), 7);
     }
 
+    @Says("WAYS, at most 12")
+    static void promise19_byTheTwelfthWay() {
+        String eleven = SEVEN + many("way a b 1;", 11);
+        due("eleven", of(eleven).reach(0), 3);
+        due("the twelfth", of(eleven + "way b g 1;").reach(0), 67);
+        SecondTelling x = of(eleven + "way b g 1;");
+        load(x, SEVEN);
+        due("behind a text with none", x.reach(0), 1);
+        load(x, SEVEN);
+        due("and another one", x.reach(1), 2);
+    }
+
     @Says("to whom WAYS (whatever talk) lead from him")
     static void promise19_whateverTalk() {
         due("talk 0", of("man a 1;man b 1;way a b 1;talk 0;").reach(0), 3);
@@ -335,6 +381,8 @@ public final class EdgesOfAskingTest extends Check {
         due("the day behind it", of(THREE + "tell a t 0;tell b t 60;").hush(0), 0);
         SecondTelling x = of(THREE + "tell a t 0;tell b t 60;", 1);
         due("from day 1 on", x.hush(0), 2);
+        due("the later one told first", of(THREE + "tell b t 59;tell a t 0;").hush(0), 1);
+        due("twelve told", of(THREE + "tell b t 59;" + many("tell a t 0;", 11)).hush(0), 1);
         SecondTelling y = of(THREE + "tell a t 0;tell b t 99;", 39);
         due("day 99 from day 39", y.hush(0), 0);
         y.go(1);
@@ -356,6 +404,13 @@ public final class EdgesOfAskingTest extends Check {
         due("c alone", x.hush(0), 4);
     }
 
+    @Says("if nothing goes by WAYS from them")
+    static void promise20_nothingGoesByWaysFromTheHushed() {
+        due("ann, for bo has it from her", of(TOWN).hush(0), 1);
+        due("the third one", of("man x 0;man y 0;man a 1;man b 0;man c 0;thing t 0 9;sees a t;sees c t;way a b 1;way a x 1;tell x t 2;tell b t 2;"
+                + "tell c t 2;tell y t 2;").hush(0), 4);
+    }
+
     @Says("their TELLS aren't")
     static void promise20_tellsOfTheHushedArent() {
         SecondTelling x = of(THREE + "tell b t 3;", 1);
@@ -367,6 +422,13 @@ public final class EdgesOfAskingTest extends Check {
     static void promise20_theHushedHear() {
         // it fits if all three have it: to hush a, who hears it, would be of no use
         due("a hears", of("man a 0;man b 0;man c 0;thing t 0 9;sees b t;sees c t;way b a 1;tell b t 2;tell c t 2;law fits many=3;").hush(0), 2);
+    }
+
+    @Says("HUSH of a THING")
+    static void promise20_ofTheSixthThing() {
+        SecondTelling x = of(SIXTH);
+        due("the sixth", x.hush(5), 1);
+        due("the fifth", x.hush(4), 0);
     }
 
     // ---------------------------------------------------------------- 21
@@ -498,6 +560,17 @@ public final class EdgesOfAskingTest extends Check {
         due("v has b", x.match(2), 1);
     }
 
+    @Says("of several the first by THINGS (PEOPLE by numbers, none is last)")
+    static void promise23_theFirstPersonForEachThing() {
+        SecondTelling x = of("man a 0;man b 0;man c 0;man d 0;thing t 0 9;thing u 0 9;near 0;"
+                + "sees a t;sees b t;sees c t;sees d t;sees a u;sees b u;sees c u;sees d u;", 1);
+        x.tell(3, 0);
+        x.tell(3, 1);
+        due("t has a", x.match(0), 0);
+        due("u has b", x.match(1), 1);
+        due("both", x.match(6), 2);
+    }
+
     @Says("so that as many THINGS as may be have one")
     static void promise23_allSixThings() {
         SecondTelling x = of("man a 0;man b 0;man c 0;man d 0;man e 0;man f 0;man g 0;near 0;" + SIX.replace(" 1 1;", " 0 1;")
@@ -619,6 +692,20 @@ public final class EdgesOfAskingTest extends Check {
         SecondTelling z = of("talk 96;");
         due("a twenty-fifth, above", z.silent(1, 0), 1);
         due("a twenty-fifth, below", z.silent(1, 1), 25);
+    }
+
+    @Says("in least terms")
+    static void promise26_inLeastTermsForEachTalk() {
+        for (int talk = 0; talk <= 100; talk++) {
+            SecondTelling x = of("talk " + talk + ";");
+            for (int n = 0; n <= 6; n++) {
+                BigInteger above = BigInteger.valueOf(100 - talk).pow(n);
+                BigInteger below = BigInteger.valueOf(100).pow(n);
+                BigInteger both = above.gcd(below);
+                due("talk " + talk + ", " + n + ", above", x.silent(n, 0), above.divide(both).longValueExact());
+                due("talk " + talk + ", " + n + ", below", x.silent(n, 1), below.divide(both).longValueExact());
+            }
+        }
     }
 
     @Says("in least terms")

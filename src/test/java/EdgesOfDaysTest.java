@@ -105,6 +105,9 @@ public final class EdgesOfDaysTest extends Check {
         due("one is", x.has(0, 0, 4), 10);
         x.forget(0, 0);
         due("it is so on", x.has(0, 0, 4), 10);
+        due("cy's isn't", x.has(2, 0, 4), -2);
+        x.tell(2, 0);
+        due("cy's is", x.has(2, 0, 4), 10);
     }
 
     @Says("2 FROM whom (-2: by sight)")
@@ -255,9 +258,28 @@ public final class EdgesOfDaysTest extends Check {
         value("(0-" + most + ")*(0-" + most + ")", ERROR);
         // 2 to the 32 times 2 to the 32 is 0 in 64 bits
         value("(4096*4096*256)*(4096*4096*256)", ERROR);
+        for (int bits = 25; bits <= 39; bits++) {
+            value("(" + powerOf2(bits) + ")*(" + powerOf2(64 - bits) + ")", ERROR);
+            value("(0-" + powerOf2(bits) + ")*(" + powerOf2(64 - bits) + ")", ERROR);
+        }
         value(most + "*0", 0);
         value("0*" + most, 0);
         value(most + "/(0-1)", -1000000000000L);
+    }
+
+    private static String powerOf2(int bits) {
+        return many("4096*", bits / 12) + (1 << bits % 12);
+    }
+
+    @Says("a 65th KNOT of all E")
+    static void promise9_anEOf64Knots() {
+        value(many("not ", 63) + "1", 0);
+        value(many("not ", 62) + "1", 1);
+        value("((((((((" + many("not ", 63) + "5))))))))", 0);
+        value(many("not ", 7) + many("(not ", 8) + many("not ", 48) + "0" + many(")", 8), 1);
+        value("1" + many("+1", 31), 32);
+        value("64" + many("-1", 31), 33);
+        value("1+1*(1+1*(1+1*(1+1*(1+1*(1+1*(1+1*(1+1*(1+1))))))))", 10);
     }
 
     @Says("VALUES are longs")
@@ -436,6 +458,13 @@ public final class EdgesOfDaysTest extends Check {
         due("100", hearBy("100"), 99);
         due("far above", hearBy("1000*1000*1000*1000"), 99);
         due("beyond an int", hearBy("4096*4096*256+7"), 99);
+    }
+
+    @Says("apart: APART (of change 0")
+    static void promise10_apartOfChangeIs0() {
+        due("0", hearBy("apart+5"), 5);
+        due("told, too", hearBy("told+5"), 5);
+        due("one has it ahead of it", hearBy("many+5"), 6);
     }
 
     @Says("the teller's HATS and BENT in sum modulo 100 without, with an ERROR")
@@ -618,6 +647,15 @@ public final class EdgesOfDaysTest extends Check {
         due("all are printed", x.count(8), 7);
         due("space once", x.count(9), 5);
         due("its day stays", x.thing(0, 2), 1);
+    }
+
+    @Says("and the THING isn't NEWS")
+    static void promise11_newsOfDay0IsNotNewsAgain() {
+        SecondTelling x = of(THREE + "sees c t;near 0;law print 5;tell a t 0;tell b t 0;", 1);
+        due("news", x.thing(0, 2), 0);
+        due("c's telling", x.tell(2, 0), 0);
+        due("its day stays", x.thing(0, 2), 0);
+        due("space once", x.count(9), 5);
     }
 
     private static int spaceBy(String law) {
@@ -849,6 +887,15 @@ public final class EdgesOfDaysTest extends Check {
         SecondTelling x = of("man a 1;man b 2;man c 3;man d 0;thing t 0 9;sees a t;sees b t;way b c 1;way a c 1;way c d 1;", 2);
         due("from b", x.has(2, 0, 2), 1);
         due("what is heard today isn't told today", x.has(3, 0, 0), -2);
+    }
+
+    @Says("WAYS, at most 12")
+    static void promise13_allTwelveWaysAndTells() {
+        SecondTelling x = of(SEVEN + "thing t 0 9;sees a t;way b c 9;way b d 9;way b e 9;way b f 9;way b g 9;way a b 1;way c d 9;way c e 9;way c f 9;"
+                + "way c g 9;way a c 1;way a d 1;" + many("tell b t 0;", 11) + "tell a t 1;", 2);
+        due("a, b, c, d", x.thing(0, 3), 15);
+        due("eleven are idle", x.count(10), 11);
+        due("the twelfth is printed", x.count(8), 1);
     }
 
     @Says("TELLS (tell), at most 12: a PERSON a THING on a DAY 0 .. 99")

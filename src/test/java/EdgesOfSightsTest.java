@@ -127,6 +127,17 @@ public final class EdgesOfSightsTest extends Check {
         due("by none", x.bents(0), 1 << 4);
     }
 
+    @Says("One that strikes one SEEN")
+    static void promise28_whatStrikesIsNoSight() {
+        SecondTelling x = of(ROW);
+        x.see(2, 1, 0, 99, true);
+        x.see(2, 1, 0, 99, true);
+        due("the same text anew", load(x, ROW), 7);
+        x.see(2, 1, 0, 14, true);
+        due("where a sight was", x.strike(0), 1);
+        due("all may be", x.bents(0), ALL);
+    }
+
     // ---------------------------------------------------------------- 29
 
     @Says("false: no such n")
@@ -270,6 +281,15 @@ public final class EdgesOfSightsTest extends Check {
         due("nor what was heard by call", y.bents(0), 0);
     }
 
+    @Says("by which all KNOWN ones are so")
+    static void promise30_theLaterDayMayBeSeenFirst() {
+        SecondTelling x = of(ROW);
+        x.see(3, 2, 0, 10 + 7 + 2, true);
+        x.see(2, 1, 0, 14, false);
+        x.see(1, 0, 0, 10, true);
+        due("c's hats count", x.bents(0), 1 << 7);
+    }
+
     @Says("as it goes from the TEXT on, nothing done by call")
     static void promise30_asItGoesFromATalkOf50On() {
         SecondTelling x = of(ROW + "talk 49;");
@@ -278,6 +298,18 @@ public final class EdgesOfSightsTest extends Check {
         SecondTelling y = of(ROW + "talk 50;");
         y.see(2, 1, 0, 14, true);
         due("50", y.bents(0), 1 << 4);
+    }
+
+    @Says("a PERSON HAD a THING as so many HATS 0 .. 99")
+    static void promise30_ofTheLastPersonAndTheLastThing() {
+        SecondTelling x = of(SEVEN + SIX.replace(" 1 1;", " 0 1;") + "sees a a;sees f f;way a b 1;way f g 1;");
+        x.see(2, 6, 5, 1 + 8, true);
+        due("of the sixth", x.bents(5), 1 << 8);
+        due("of the first: it isn't so by another one's", x.bents(0), 0);
+        SecondTelling y = of(SEVEN + SIX.replace(" 1 1;", " 0 1;") + "sees a a;sees f f;way a b 1;way f g 1;");
+        y.see(2, 6, 5, 2, true);
+        y.see(2, 1, 0, 5, true);
+        due("both have to be so", y.bents(0), 1 << 4);
     }
 
     @Says("NONE: no such PERSON")
@@ -340,6 +372,19 @@ public final class EdgesOfSightsTest extends Check {
         due("both are left", x.ask(0, 0, 1), 2);
     }
 
+    @Says("whom else (or him) one should ask")
+    static void promise31_theFirstOneOrHimself() {
+        SecondTelling x = of("man a 1;man b 1;thing t 0 9;sees b t;way b a 1;");
+        due("the first one", x.ask(1, 0, 0), 0);
+        due("one is left", x.ask(1, 0, 1), 1);
+        // one is left whoever is asked, so it is the first one: he himself
+        SecondTelling y = of("man b 1;man a 1;thing t 0 9;sees b t;way b a 1;law change hats+day*bent;");
+        y.see(60, 1, 0, 9, true);
+        due("bent 0 alone", y.bents(0), 1);
+        due("it is left", y.ask(0, 0, 1), 1);
+        due("he himself", y.ask(0, 0, 0), 0);
+    }
+
     @Says("so that as few of BENTS of the PERSON (by KNOWN) as may be are left at worst")
     static void promise31_byKnown() {
         SecondTelling x = of("man a 0;man b 0;thing t 0 0;sees a t;way a b 1;law change bent/5;");
@@ -349,6 +394,14 @@ public final class EdgesOfSightsTest extends Check {
         due("whoever is asked: the first one", x.ask(0, 0, 0), 0);
         x.known(0);
         due("by none known b is asked", x.ask(0, 0, 0), 1);
+    }
+
+    @Says("ASK of a PERSON and a THING")
+    static void promise31_ofTheSixthThingAskTheSeventhPerson() {
+        SecondTelling x = of(SEVEN + SIX + "sees f f;way f g 1;");
+        due("the seventh", x.ask(5, 5, 0), 6);
+        due("one is left", x.ask(5, 5, 1), 1);
+        due("nobody has the fifth", x.ask(5, 4, 1), 10);
     }
 
     @Says("ASK, what 0: whom, 1: how many are left at worst")
@@ -538,6 +591,44 @@ public final class EdgesOfSightsTest extends Check {
         due("joined", of(TRIED.replace("tell c t 2;", "tell a t 2;")).tried(4, 0, 9), 0);
     }
 
+    @Says("2 nothing goes by WAYS from PERSON i")
+    static void promise33_nothingFromEachPerson() {
+        String text = "man a 1;man b 1;man c 1;man d 1;thing t 0 9;sees a t;sees d t;way a b 1;way b c 1;tell c t 3;tell d t 3;";
+        int[] news = {0, 0, 1, 1};
+        for (int man = 0; man < 4; man++) {
+            due("from " + man, of(text).tried(2, man, 9), news[man]);
+        }
+    }
+
+    @Says("TRIED for n DAYS as it goes")
+    static void promise33_whatIsTriedDoesntStay() {
+        String text = "man a 4;man b 2;man c 3;thing t 0 9;sees a t;sees c t;way a b 1;tell b t 3;tell c t 3;law change hats+bent;law fits apart=4;";
+        SecondTelling x = of(text, 1);
+        for (int what = 0; what <= 4; what++) {
+            x.tried(what, 0, 9);
+            due("change behind " + what, x.law(0, 0, 0, 0), 13);
+            x.tried(what, 0, 9);
+            due("fits behind " + what, x.law(1, 0, 0, 2), 0);
+            x.tried(what, 0, 9);
+            due("pairs behind " + what, x.pairs(0), 0);
+            x.tried(what, 0, 9);
+            due("rests behind " + what, x.rests(0, 2, 0), 2);
+            x.tried(what, 0, 9);
+            due("ahead behind " + what, x.ahead(3, 0, 0), 1);
+            x.tried(what, 0, 9);
+            due("hear behind " + what, x.hear(1, 0, 0), 13);
+            x.tried(what, 0, 9);
+            due("tell behind " + what, x.tell(2, 0), 0);
+            x.tried(what, 0, 9);
+            due("match behind " + what, x.match(0), 1);
+            x.undo();
+            x.undo();
+        }
+        x.tried(2, 0, 9);
+        x.go(1);
+        due("b hears it", x.has(1, 0, 0), 13);
+    }
+
     // ---------------------------------------------------------------- 34
 
     @Says("NONE: none")
@@ -626,17 +717,63 @@ public final class EdgesOfSightsTest extends Check {
 
     @Says("Hearing, telling (PRINTED, NEWS, SPACE), forgetting by call can be undone")
     static void promise34_hearingAndForgettingAreUndone() {
-        SecondTelling x = of(ROW, 2);
+        SecondTelling x = of(ROW.replace("c 0", "c 3"), 2);
         String before = stateOf(x);
         x.forget(1, 0);
         x.hear(2, 0, 0);
-        x.hear(1, 2, 0);
+        due("other hats", x.hear(1, 2, 0), 17);
         due("two are left", x.undo(), 2);
         due("b hasn't it", x.has(1, 0, 0), -2);
         due("one is left", x.undo(), 1);
         due("c hasn't it", x.has(2, 0, 0), -2);
         due("none", x.undo(), 0);
         due("as before", stateOf(x), before);
+    }
+
+    @Says("Hearing, telling (PRINTED, NEWS, SPACE), forgetting by call can be undone")
+    static void promise34_spaceIsAsItWasAhead() {
+        SecondTelling x = of("man a 0;man b 0;thing t 0 9;thing u 0 9;sees a t;sees b t;sees a u;sees b u;near 0;law print 7;", 1);
+        x.tell(0, 0);
+        due("t is news", x.tell(1, 0), 1);
+        x.tell(0, 1);
+        String before = stateOf(x);
+        due("u is news", x.tell(1, 1), 1);
+        due("space", x.count(9), 14);
+        x.undo();
+        due("as before", stateOf(x), before);
+    }
+
+    /** h: the first one hears it from the second one, t: he tells it, f: he forgets it; a, b, c and t, u by their names. */
+    private static void doAll(SecondTelling x, String deeds) {
+        for (String deed : deeds.split(" ")) {
+            int man = deed.charAt(1) - 'a';
+            int thing = deed.charAt(deed.length() - 1) - 't';
+            boolean done = switch (deed.charAt(0)) {
+                case 'h' -> x.hear(man, deed.charAt(2) - 'a', thing) >= 0;
+                case 't' -> x.tell(man, thing) >= 0;
+                default -> x.forget(man, thing);
+            };
+            due(deed, done, true);
+        }
+    }
+
+    @Says("the latest first (20 at most)")
+    static void promise34_theTwentyBehindTheFirstFive() {
+        String text = "man a 1;man b 2;man c 3;thing t 0 9;thing u 0 50;sees a t;sees b u;sees c t;sees c u;near 0;far 99;law print 7;";
+        String five = "tat tct hbat fcu habu";
+        SecondTelling x = of(text, 1);
+        doAll(x, five);
+        due("news among the first five", x.count(9), 7);
+        doAll(x, "tbt hcau fat hact fbt hbct tbu tau fcu hcbu tcu fau hacu fbu hbau fct hcbt fbt hbct fat");
+        due("twenty", x.count(13), 20);
+        for (int left = 19; left >= 0; left--) {
+            due("on", x.undo(), left);
+        }
+        SecondTelling y = of(text, 1);
+        doAll(y, five);
+        y.keep();
+        y.back();
+        due("as behind the first five", stateOf(x), stateOf(y));
     }
 
     // ---------------------------------------------------------------- 35
@@ -696,12 +833,29 @@ public final class EdgesOfSightsTest extends Check {
         due("one is idle", x.count(10), 1);
         due("it is news then", x.tell(2, 0), 1);
         x.forget(0, 0);
+        x.forget(1, 0);
+        due("bo hears it anew", x.hear(1, 3, 0), 15);
         x.go(9);
         due("more are idle", x.count(10), 4);
         due("di has the marsh", x.has(3, 1, 0), 40);
         due("back", x.back(), 3);
         due("as it was", stateOf(x), kept);
         due("and news once more", x.tell(2, 0), 1);
+    }
+
+    @Says("All (but what was SEEN) is as in the IMAGE")
+    static void promise36_theChainOfWhatIsPrinted() {
+        SecondTelling x = of("man a 0;man b 0;man c 0;thing t 0 9;sees a t;sees c t;near 0;", 1);
+        x.hear(1, 0, 0);
+        due("b tells it, by a", x.tell(1, 0), 0);
+        x.keep();
+        x.undo();
+        x.forget(1, 0);
+        x.hear(1, 2, 0);
+        due("b tells it, by c", x.tell(1, 0), 0);
+        due("back", x.back(), 1);
+        due("a is joined with it", x.tell(0, 0), 0);
+        due("c isn't", x.tell(2, 0), 1);
     }
 
     @Says("All (but what was SEEN) is as in the IMAGE")

@@ -264,6 +264,59 @@ public final class EdgesOfTextTest extends Check {
         due("its knots", x.count(4), 5);
     }
 
+    @Says("how many LINES")
+    static void promise3_nothingOfATextWithAFaultIsLeft() {
+        SecondTelling x = of(TWO);
+        String most = SEVEN + "thing t 0 5;thing u 0 6;sees a t;sees a u;sees b t;sees b u;sees c t;sees c u;sees d t;sees d u;sees e t;sees e u;"
+                + "way a b 1;tell a t 1;near 5;far 6;talk 7;seed 8;law change 1;law fits 2;";
+        due("a fault in its last law", load(x, most + "law print ((1+(2*(not 3"), -1);
+        String text = TWO + "sees b t;law change ((((((((hats or 0))))))));";
+        due("the text behind it", load(x, text), 5);
+        int[] counts = {2, 1, 0, 0, 3};
+        for (int what = 0; what < counts.length; what++) {
+            due("count " + what, x.count(what), counts[what]);
+        }
+        due("talk as without", x.silent(1, 0), 0);
+        x.go(3);
+        due("b alone sees it", x.thing(0, 3), 2);
+        due("its change", x.law(0, 0, 1, 0), 1);
+        due("no fits", x.law(1, 0, 0, 1), ERROR);
+    }
+
+    @Says("how many LINES")
+    static void promise3_nothingOfTextsAheadIsLeft() {
+        String most = SEVEN + "thing t 0 5;thing u 0 6;sees a t;sees a u;sees b t;sees b u;sees c t;sees c u;sees d t;sees d u;sees e t;sees e u;"
+                + "way a b 1;tell a t 1;near 0;far 6;talk 7;seed 8;law change 1;law fits 2;law print 3+4;";
+        SecondTelling x = of(most);
+        due("the same again", load(x, most), 28);
+        String text = TWO + "sees a t;sees b t;tell a t 0;tell b t 0;";
+        due("another one", load(x, text), 7);
+        int[] counts = {2, 1, 0, 2, 0};
+        for (int what = 0; what < counts.length; what++) {
+            due("count " + what, x.count(what), counts[what]);
+        }
+        due("no news with near as without", x.ahead(9, 0, 0), 0);
+        x.go(1);
+        due("no change", x.law(0, 0, 0, 1), ERROR);
+        due("no fits", x.law(1, 0, 0, 1), ERROR);
+        due("no print", x.law(2, 0, 0, 1), ERROR);
+        due("a new law", load(x, TWO + "sees a t;law fits 1;law change 9;"), 6);
+        x.go(1);
+        due("its value", x.law(0, 0, 0, 1), 9);
+    }
+
+    @Says("a 65th KNOT of all E")
+    static void promise3_64KnotsInEachOfManyTexts() {
+        SecondTelling x = new SecondTelling();
+        for (int i = 1; i <= 5; i++) {
+            due("text " + i, load(x, TWO + "sees a t;law change not " + i + many("-1", 31) + ";"), 5);
+            due("knots", x.count(4), 64);
+            x.go(1);
+            due("its value", x.law(0, 0, 0, 0), 0);
+            due("too many " + i, load(x, KNOTS64 + "law print 1;"), -1);
+        }
+    }
+
     @Says("it is empty then")
     static void promise3_withAFaultTheTapeIsEmpty() {
         SecondTelling x = new SecondTelling();
@@ -497,7 +550,14 @@ public final class EdgesOfTextTest extends Check {
         faulty("talk x;", 1, 5);
         faulty("seed (1);", 1, 5);
         faulty("law 1;", 1, 4);
-        faulty("law near 1;", 1, 4);
+        faulty("law x 1;", 1, 4);
+        for (String word : LANGUAGE) {
+            if (word.equals("change") || word.equals("fits") || word.equals("print")) {
+                fine("law " + word + " 1;", 1);
+            } else {
+                faulty("law " + word + " 1;", 1, 4);
+            }
+        }
     }
 
     @Says("or can't stand there")
@@ -561,6 +621,35 @@ public final class EdgesOfTextTest extends Check {
         due("cut by n", x.text(7), -1);
         due("fault", x.fault(0), 1);
         due("place", x.fault(1), 7);
+    }
+
+    private static void cut(String tape, int n, int place) {
+        SecondTelling x = new SecondTelling();
+        feedAll(x, tape);
+        due("text " + n + " of " + tape, x.text(n), -1);
+        due("fault(0)", x.fault(0), 1);
+        due("fault(1)", x.fault(1), place);
+    }
+
+    @Says("the length, if more must come")
+    static void promise4_whatIsBehindTheFirstNIsntLookedAt() {
+        cut("man abcdef 1;", 5, 5);
+        cut("man abcdef 1;", 2, 0);
+        cut("man a 12;", 7, 7);
+        cut("law fits 1<=2;", 11, 11);
+        cut("law fits 1<>2;", 11, 11);
+        cut("law fits 1>=2;", 11, 11);
+        cut("man a 1 ;", 8, 8);
+    }
+
+    @Says("the length, if more must come")
+    static void promise4_theLengthOfAFullTape() {
+        String blanks = many(" ", 680);
+        cut(blanks + "              man ab", 700, 700);
+        cut(blanks + "            man a 12".replace("12", " 1"), 700, 700);
+        cut(blanks + "         law fits 1<", 700, 700);
+        cut(blanks + "         law fits 1>", 700, 700);
+        cut(blanks + "         law fits 1 ", 700, 700);
     }
 
     // ---------------------------------------------------------------- 4: FAULT 2
