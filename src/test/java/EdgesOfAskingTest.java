@@ -2,7 +2,6 @@ import java.math.BigInteger;
 
 /** Promises 14 to 26, sentence by sentence: what comes, who can hear, whom to hush, matches, games, odds, at their edges. */
 public final class EdgesOfAskingTest extends Check {
-    private static final int[] NO_NUMBERS = {-1, -2, 31, 32, 64, Integer.MIN_VALUE, Integer.MAX_VALUE};
     /** The sixth THING is seen by two, told by both on DAY 3, and heard by g on DAY 1. */
     private static final String SIXTH = SEVEN + SIX.replace(" 1 1;", " 0 1;") + "sees a f;sees f f;way f g 1;tell a f 3;tell f f 3;near 0;";
     /** a and b by sight as 40, c by nobody yet; any two that aren't joined fit. */

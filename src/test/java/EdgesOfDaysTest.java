@@ -1,6 +1,5 @@
 /** Promises 6 to 13, sentence by sentence: who has what, laws, hearing, telling, forgetting, days, at their edges. */
 public final class EdgesOfDaysTest extends Check {
-    private static final int[] NO_NUMBERS = {-1, -2, 31, 32, 64, Integer.MIN_VALUE, Integer.MAX_VALUE};
     private static final String ALL_SEE = SEVEN + "thing t 0 9;sees a t;sees b t;sees c t;sees d t;sees e t;sees f t;sees g t;";
     /** a and b by sight, c by nobody yet. */
     private static final String THREE = "man a 0;man b 0;man c 0;thing t 0 40;sees a t;sees b t;";

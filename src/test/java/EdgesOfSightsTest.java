@@ -1,6 +1,5 @@
 /** Promises 27 to 37, sentence by sentence: what was seen, struck, known, asked, drawn, tried, undone, kept, at their edges. */
 public final class EdgesOfSightsTest extends Check {
-    private static final int[] NO_NUMBERS = {-1, -2, 31, 32, 64, Integer.MIN_VALUE, Integer.MAX_VALUE};
     /** b hears it from a on day 1 as 10 and a's bent, c from b on day 2. */
     private static final String ROW = "man a 4;man b 2;man c 0;thing t 0 10;sees a t;way a b 1;way b c 1;";
     private static final int ALL = 1023;

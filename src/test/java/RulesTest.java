@@ -7,6 +7,7 @@ import java.nio.file.Files;
 import java.nio.file.Path;
 import java.util.ArrayList;
 import java.util.List;
+import java.util.NoSuchElementException;
 import java.util.TreeSet;
 import java.util.regex.Matcher;
 import java.util.regex.Pattern;
@@ -56,6 +57,9 @@ public final class RulesTest {
             if (Modifier.isPublic(m.getModifiers())) {
                 found.add(signature(m));
                 must(!Modifier.isStatic(m.getModifiers()), "static: " + m);
+                List<Class<?>> thrown = m.getName().equals("thing")
+                        ? List.of(IndexOutOfBoundsException.class, NoSuchElementException.class) : List.of();
+                must(List.of(m.getExceptionTypes()).equals(thrown), "what it throws: " + m);
             } else {
                 must(Modifier.isPrivate(m.getModifiers()), "neither public nor private: " + m);
                 hidden.add(m.getName());

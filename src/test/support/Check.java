@@ -23,6 +23,9 @@ abstract class Check {
     static final String SEVEN = "man a 1;man b 1;man c 1;man d 1;man e 1;man f 1;man g 1;";
     static final String SIX = "thing a 1 1;thing b 1 1;thing c 1 1;thing d 1 1;thing e 1 1;thing f 1 1;";
 
+    /** Numbers that no person, thing or what has; 31, 32, 64 as a shift by them comes round again. */
+    static final int[] NO_NUMBERS = {-1, -2, 31, 32, 64, Integer.MIN_VALUE, Integer.MAX_VALUE};
+
     private static final Path DOCUMENT = Path.of("../shared/DOC.md");
     private static final Pattern NAME = Pattern.compile("promise(\\d+)_\\w+");
 
