@@ -20,6 +20,14 @@ abstract class Check {
             + "sees ann fire;sees cy fire;sees di marsh;way ann bo 1;way bo cy 2;way cy di 1;"
             + "tell bo fire 2;tell ann fire 3;tell cy fire 3;tell di fire 4;";
 
+    /**
+     * Four people, two things: dot hears the mill from bea on day 2, cal from al on day 3; the well bea hears from cal on day 4,
+     * al from dot on day 6; the mill is news on day 4, by cal (21) and dot (24), the well on day 9, by cal (60) and al (62).
+     */
+    static final String MILL = "man al 1;man bea 4;man cal 7;man dot 2;thing mill 1 20;thing well 3 60;"
+            + "sees al mill;sees bea mill;sees cal well;sees dot well;way al cal 2;way bea dot 1;way cal bea 1;way dot al 3;"
+            + "tell cal mill 4;tell dot mill 4;tell dot well 5;tell cal well 6;tell al well 9;";
+
     static final String SEVEN = "man a 1;man b 1;man c 1;man d 1;man e 1;man f 1;man g 1;";
     static final String SIX = "thing a 1 1;thing b 1 1;thing c 1 1;thing d 1 1;thing e 1 1;thing f 1 1;";
 
